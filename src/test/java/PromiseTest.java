@@ -1,81 +1,35 @@
 /** Each promise of the document: ordinary inputs, the edges that it names, and wrong inputs. */
-public final class PromiseTest {
-    private static final Class<IllegalArgumentException> ARGUMENT = IllegalArgumentException.class;
-    private static final Class<IndexOutOfBoundsException> INDEX = IndexOutOfBoundsException.class;
-    private static final Class<IllegalStateException> STATE = IllegalStateException.class;
-    private static final int LEAST = Integer.MIN_VALUE;
-    private static final int GREATEST = Integer.MAX_VALUE;
-
-    private static final Checks CHECKS = new Checks();
-
+public final class PromiseTest extends Checks {
     public static void main(String[] args) {
-        promise1NewObject();
-        promise2Size();
-        promise2SizeForgets();
-        promise3Pixel();
-        promise4Look();
-        promise5Direction();
-        promise5DirectionRefuses();
-        promise6Shelf();
-        promise7Project();
-        promise8Drop();
-        promise9Bin();
-        promise10Put();
-        promise11Enough();
-        promise12Rebuild();
-        promise12RebuildOrder();
-        promise12RebuildRefuses();
-        promise13About();
-        promise14Regenerate();
-        promise15Audit();
-        promise16Ghost();
-        promise16GhostRefuses();
-        promise17Keep();
-        promise18Add();
-        promise18AddShelves();
-        CHECKS.end();
+        PromiseTest test = new PromiseTest();
+        test.promise1NewObject();
+        test.promise2Size();
+        test.promise2SizeForgets();
+        test.promise3Pixel();
+        test.promise4Look();
+        test.promise5Direction();
+        test.promise5DirectionRefuses();
+        test.promise6Shelf();
+        test.promise7Project();
+        test.promise8Drop();
+        test.promise9Bin();
+        test.promise10Put();
+        test.promise11Enough();
+        test.promise12Rebuild();
+        test.promise12RebuildOrder();
+        test.promise12RebuildRefuses();
+        test.promise13About();
+        test.promise14Regenerate();
+        test.promise15Audit();
+        test.promise16Ghost();
+        test.promise16GhostRefuses();
+        test.promise17Keep();
+        test.promise18Add();
+        test.promise18AddShelves();
+        test.end();
     }
 
-    private static void same(String what, long due, long got) {
-        CHECKS.same(what, due, got);
-    }
-
-    private static void same(String what, boolean due, boolean got) {
-        CHECKS.same(what, due, got);
-    }
-
-    private static void refuses(String what, Class<? extends RuntimeException> due, Checks.Call call) {
-        CHECKS.refuses(what, due, call);
-    }
-
-    /** 1 2 3 / 4 5 6, with the shelves (0, 1), (1, 0), (1, 1), (-2, 1), of which none is filled. */
-    private static ShadowArchive sixPixels() {
-        ShadowArchive archive = new ShadowArchive();
-        archive.size(3, 2);
-        for (int cell = 0; cell < 6; cell++) {
-            archive.pixel(cell % 3, cell / 3, cell + 1);
-        }
-        archive.direction(0, 0, 1);
-        archive.direction(1, 1, 0);
-        archive.direction(2, 1, 1);
-        archive.direction(3, -2, 1);
-        return archive;
-    }
-
-    private static void projectAll(ShadowArchive archive, int... shelves) {
-        for (int shelf : shelves) {
-            archive.project(shelf);
-        }
-    }
-
-    private static void bins(String what, ShadowArchive archive, int shelf, int... due) {
-        same(what + ": bins", due.length, archive.shelf(shelf, 2));
-        for (int k = 0; k < due.length; k++) {
-            same(what + ": bin " + k, due[k], archive.bin(shelf, k));
-        }
-    }
-
-    private static void promise1NewObject() {
+    private void promise1NewObject() {
         ShadowArchive archive = new ShadowArchive();
         same("1: the pixel", 0, archive.look(0, 0, 0));
         refuses("1: one column", INDEX, () -> archive.look(0, 1, 0));
@@ -91,7 +45,7 @@ public final class PromiseTest {
         same("1: MANY", 99, ShadowArchive.MANY);
     }
 
-    private static void promise2Size() {
+    private void promise2Size() {
         ShadowArchive archive = new ShadowArchive();
         archive.size(16, 16);
         same("2: greatest", 0, archive.look(0, 15, 15));
@@ -106,7 +60,7 @@ public final class PromiseTest {
         same("2: a refused size changes nothing", 3, archive.look(0, 4, 0));
     }
 
-    private static void promise2SizeForgets() {
+    private void promise2SizeForgets() {
         ShadowArchive archive = sixPixels();
         projectAll(archive, 0, 1, 2);
         archive.keep();
@@ -132,7 +86,7 @@ public final class PromiseTest {
         same("2: and empty", 0, archive.shelf(5, 3));
     }
 
-    private static void promise3Pixel() {
+    private void promise3Pixel() {
         ShadowArchive archive = sixPixels();
         archive.project(0);
         same("3: what it was", 6, archive.pixel(2, 1, LEAST));
@@ -146,7 +100,7 @@ public final class PromiseTest {
         }
     }
 
-    private static void promise4Look() {
+    private void promise4Look() {
         ShadowArchive archive = sixPixels();
         same("4: x is the column", 3, archive.look(0, 2, 0));
         same("4: y is the row", 4, archive.look(0, 0, 1));
@@ -171,14 +125,14 @@ public final class PromiseTest {
         refuses("4: no pixel of the rebuilt one", INDEX, () -> archive.look(2, 3, 1));
     }
 
-    private static void direction(String what, int p, int q, int dueP, int dueQ) {
+    private void direction(String what, int p, int q, int dueP, int dueQ) {
         ShadowArchive archive = new ShadowArchive();
         archive.direction(7, p, q);
         same(what + ": p", dueP, archive.shelf(7, 0));
         same(what + ": q", dueQ, archive.shelf(7, 1));
     }
 
-    private static void promise5Direction() {
+    private void promise5Direction() {
         direction("5: (1, 0)", 1, 0, 1, 0);
         direction("5: (-1, 0)", -1, 0, 1, 0);
         direction("5: (0, 1)", 0, 1, 0, 1);
@@ -197,7 +151,7 @@ public final class PromiseTest {
         same("5: a direction that was left is free", 1, archive.shelf(5, 0));
     }
 
-    private static void promise5DirectionRefuses() {
+    private void promise5DirectionRefuses() {
         ShadowArchive archive = sixPixels();
         archive.project(2);
         int[][] none = {{0, 0}, {0, 2}, {2, 0}, {-2, 0}, {2, 2}, {-6, 9}, {16, 14}, {17, 1}, {1, 17}, {-17, 1},
@@ -213,7 +167,7 @@ public final class PromiseTest {
         bins("5: a refused direction changes nothing", archive, 2, 3, 8, 6, 4);
     }
 
-    private static void promise6Shelf() {
+    private void promise6Shelf() {
         ShadowArchive archive = sixPixels();
         same("6: p", -2, archive.shelf(3, 0));
         same("6: q", 1, archive.shelf(3, 1));
@@ -237,7 +191,7 @@ public final class PromiseTest {
         same("6: bins of columns", 16, archive.shelf(1, 2));
     }
 
-    private static void promise7Project() {
+    private void promise7Project() {
         ShadowArchive archive = sixPixels();
         projectAll(archive, 0, 1, 2, 3);
         bins("7: (0, 1)", archive, 0, 9, 7, 5);
@@ -260,7 +214,7 @@ public final class PromiseTest {
         refuses("7: shelf -1", INDEX, () -> archive.project(-1));
     }
 
-    private static void promise8Drop() {
+    private void promise8Drop() {
         ShadowArchive archive = sixPixels();
         same("8: was empty", false, archive.drop(0));
         archive.project(0);
@@ -275,7 +229,7 @@ public final class PromiseTest {
         refuses("8: shelf -1", INDEX, () -> archive.drop(-1));
     }
 
-    private static void promise9Bin() {
+    private void promise9Bin() {
         ShadowArchive archive = sixPixels();
         refuses("9: empty", STATE, () -> archive.bin(0, 0));
         refuses("9: empty before no bin", STATE, () -> archive.bin(0, 3));
@@ -292,7 +246,7 @@ public final class PromiseTest {
         refuses("9: dropped", STATE, () -> archive.bin(0, 0));
     }
 
-    private static void promise10Put() {
+    private void promise10Put() {
         ShadowArchive archive = sixPixels();
         refuses("10: empty", STATE, () -> archive.put(1, 0, 1));
         refuses("10: empty before no bin", STATE, () -> archive.put(1, 2, 1));
@@ -308,7 +262,7 @@ public final class PromiseTest {
         refuses("10: bin -1", INDEX, () -> archive.put(1, -1, 1));
     }
 
-    private static void promise11Enough() {
+    private void promise11Enough() {
         ShadowArchive archive = new ShadowArchive();
         same("11: none", false, archive.enough(0));
         same("11: without directions", false, archive.enough(255));
@@ -328,7 +282,7 @@ public final class PromiseTest {
         refuses("11: mask LEAST", ARGUMENT, () -> archive.enough(LEAST));
     }
 
-    private static void promise12Rebuild() {
+    private void promise12Rebuild() {
         ShadowArchive archive = sixPixels();
         projectAll(archive, 0, 1, 2, 3);
         same("12: agrees with all", 99, archive.rebuild(7));
@@ -365,18 +319,8 @@ public final class PromiseTest {
     }
 
     /** Of two shelves that do not agree the order tells which pixel comes from which bin. */
-    private static void promise12RebuildOrder() {
-        ShadowArchive archive = new ShadowArchive();
-        archive.size(2, 2);
-        archive.direction(0, 1, 1);
-        archive.direction(1, -1, 1);
-        projectAll(archive, 0, 1);
-        archive.put(0, 0, 1);
-        archive.put(0, 1, 10);
-        archive.put(0, 2, 100);
-        archive.put(1, 0, 1000);
-        archive.put(1, 1, 5);
-        archive.put(1, 2, 10000);
+    private void promise12RebuildOrder() {
+        ShadowArchive archive = cornersOfTwoDiagonals(to(1, 1), to(-1, 1));
         // Bin 0 of shelf 0 is (1, 0), bin 2 of it (0, 1); only then shelf 1 gives (1, 1), and
         // then shelf 0 again is lower than shelf 1, so (0, 0) is what is left of its bin 1.
         same("12: shelf 1 does not agree", 1, archive.rebuild(3));
@@ -388,7 +332,7 @@ public final class PromiseTest {
         same("12: order, steps", 4, archive.about(0));
     }
 
-    private static void promise12RebuildRefuses() {
+    private void promise12RebuildRefuses() {
         ShadowArchive archive = sixPixels();
         projectAll(archive, 0, 1, 2);
         archive.rebuild(7);
@@ -402,7 +346,7 @@ public final class PromiseTest {
         refuses("12: mask before state", ARGUMENT, () -> archive.rebuild(257));
     }
 
-    private static void promise13About() {
+    private void promise13About() {
         ShadowArchive archive = new ShadowArchive();
         same("13: steps before", 0, archive.about(0));
         same("13: bin before", -1, archive.about(1));
@@ -433,7 +377,7 @@ public final class PromiseTest {
         refuses("13: what -1", ARGUMENT, () -> archive.about(-1));
     }
 
-    private static void promise14Regenerate() {
+    private void promise14Regenerate() {
         ShadowArchive archive = sixPixels();
         same("14: from none", false, archive.regenerate(0));
         projectAll(archive, 0, 1);
@@ -458,7 +402,7 @@ public final class PromiseTest {
                 archive.look(2, 0, 1) + archive.look(2, 1, 1) + archive.look(2, 2, 1));
     }
 
-    private static void promise15Audit() {
+    private void promise15Audit() {
         ShadowArchive archive = sixPixels();
         same("15: nothing filled", 99, archive.audit());
         archive.project(0);
@@ -491,15 +435,7 @@ public final class PromiseTest {
         same("15: its bin stays", 0, either.about(1));
     }
 
-    private static void ghostIs(String what, ShadowArchive archive, int mask, int[][] due) {
-        for (int y = 0; y < due.length; y++) {
-            for (int x = 0; x < due[y].length; x++) {
-                same(what + " at (" + x + ", " + y + ")", due[y][x], archive.ghost(mask, x, y));
-            }
-        }
-    }
-
-    private static void promise16Ghost() {
+    private void promise16Ghost() {
         ShadowArchive archive = new ShadowArchive();
         archive.size(5, 4);
         archive.direction(0, 1, 1);
@@ -522,7 +458,7 @@ public final class PromiseTest {
                 new int[][] {{0, 0, 0, 1, -1}, {0, -1, 0, 1, 0}, {1, -1, 0, 0, 0}, {0, 0, 0, 0, 0}});
     }
 
-    private static void promise16GhostRefuses() {
+    private void promise16GhostRefuses() {
         ShadowArchive archive = new ShadowArchive();
         archive.size(5, 4);
         archive.direction(0, 4, 3);
@@ -540,7 +476,7 @@ public final class PromiseTest {
         same("16: the picture stays", 0, archive.look(0, 0, 0));
     }
 
-    private static void promise17Keep() {
+    private void promise17Keep() {
         ShadowArchive archive = sixPixels();
         projectAll(archive, 0, 1);
         archive.keep();
@@ -563,7 +499,7 @@ public final class PromiseTest {
         same("17: keeps over add()", 101, archive.look(1, 0, 0));
     }
 
-    private static void promise18Add() {
+    private void promise18Add() {
         ShadowArchive archive = sixPixels();
         refuses("18: nothing kept", STATE, () -> archive.add(true));
         refuses("18: nothing kept to take away", STATE, () -> archive.add(false));
@@ -585,7 +521,7 @@ public final class PromiseTest {
         same("18: and back", 1, archive.look(0, 0, 0));
     }
 
-    private static void promise18AddShelves() {
+    private void promise18AddShelves() {
         ShadowArchive archive = sixPixels();
         projectAll(archive, 0, 1, 2);
         archive.put(1, 0, 60);
