@@ -17,6 +17,18 @@ class Checks {
     private String sentence = "";
     private int madeBefore = -1;
 
+    /** Runs each test and ends; what one of them throws does not keep the next from being run. */
+    final void run(Call... tests) {
+        for (Call test : tests) {
+            try {
+                test.run();
+            } catch (RuntimeException thrown) {
+                report("threw " + thrown);
+            }
+        }
+        end();
+    }
+
     /** The words of the document that the checks from here on are for. */
     final void sentence(String words) {
         if (made == madeBefore) {

@@ -2,20 +2,20 @@
 public final class GhostAddEdgeTest extends Checks {
     public static void main(String[] args) {
         GhostAddEdgeTest test = new GhostAddEdgeTest();
-        test.ghostOfSomeShelves();
-        test.ghostLooksAtDirectionsAlone();
-        test.ghostRefusesMask();
-        test.ghostRefusesPixel();
-        test.ghostRefusesEnough();
-        test.keepInPlaceOfWhatWas();
-        test.keepTakesShelves();
-        test.addPixelByPixel();
-        test.addBinByBin();
-        test.addNeedsTheSameDirection();
-        test.addNeedsWhatWasFilled();
-        test.addTellsHowManyStay();
-        test.addRefuses();
-        test.end();
+        test.run(
+                test::ghostOfSomeShelves,
+                test::ghostLooksAtDirectionsAlone,
+                test::ghostRefusesMask,
+                test::ghostRefusesPixel,
+                test::ghostRefusesEnough,
+                test::keepInPlaceOfWhatWas,
+                test::keepTakesShelves,
+                test::addPixelByPixel,
+                test::addBinByBin,
+                test::addNeedsTheSameDirection,
+                test::addNeedsWhatWasFilled,
+                test::addTellsHowManyStay,
+                test::addRefuses);
     }
 
     private void ghostOfSomeShelves() {

@@ -2,18 +2,18 @@
 public final class PictureEdgeTest extends Checks {
     public static void main(String[] args) {
         PictureEdgeTest test = new PictureEdgeTest();
-        test.newObject();
-        test.sizeMakesAllZero();
-        test.sizeTakesDirections();
-        test.sizeTakesKeptAndRebuilt();
-        test.sizeRefuses();
-        test.pixelTellsWhatItWas();
-        test.pixelLeavesShelves();
-        test.pixelRefuses();
-        test.lookAtThree();
-        test.lookRefusesNoPixel();
-        test.lookRefusesNoPicture();
-        test.end();
+        test.run(
+                test::newObject,
+                test::sizeMakesAllZero,
+                test::sizeTakesDirections,
+                test::sizeTakesKeptAndRebuilt,
+                test::sizeRefuses,
+                test::pixelTellsWhatItWas,
+                test::pixelLeavesShelves,
+                test::pixelRefuses,
+                test::lookAtThree,
+                test::lookRefusesNoPixel,
+                test::lookRefusesNoPicture);
     }
 
     private void newObject() {
@@ -30,6 +30,8 @@ public final class PictureEdgeTest extends Checks {
             refuses("nothing to make anew, shelf " + s, STATE, () -> archive.regenerate(shelf));
             same("not filled, shelf " + s, false, archive.drop(shelf));
         }
+        refuses("nothing kept", STATE, () -> archive.look(1, 0, 0));
+        refuses("nothing rebuilt", STATE, () -> archive.look(2, 0, 0));
         same("not enough", false, archive.enough(255));
         same("nothing to rebuild from", NONE, archive.rebuild(255));
         same("nothing of one picture", MANY, archive.audit());

@@ -2,31 +2,31 @@
 public final class PromiseTest extends Checks {
     public static void main(String[] args) {
         PromiseTest test = new PromiseTest();
-        test.promise1NewObject();
-        test.promise2Size();
-        test.promise2SizeForgets();
-        test.promise3Pixel();
-        test.promise4Look();
-        test.promise5Direction();
-        test.promise5DirectionRefuses();
-        test.promise6Shelf();
-        test.promise7Project();
-        test.promise8Drop();
-        test.promise9Bin();
-        test.promise10Put();
-        test.promise11Enough();
-        test.promise12Rebuild();
-        test.promise12RebuildOrder();
-        test.promise12RebuildRefuses();
-        test.promise13About();
-        test.promise14Regenerate();
-        test.promise15Audit();
-        test.promise16Ghost();
-        test.promise16GhostRefuses();
-        test.promise17Keep();
-        test.promise18Add();
-        test.promise18AddShelves();
-        test.end();
+        test.run(
+                test::promise1NewObject,
+                test::promise2Size,
+                test::promise2SizeForgets,
+                test::promise3Pixel,
+                test::promise4Look,
+                test::promise5Direction,
+                test::promise5DirectionRefuses,
+                test::promise6Shelf,
+                test::promise7Project,
+                test::promise8Drop,
+                test::promise9Bin,
+                test::promise10Put,
+                test::promise11Enough,
+                test::promise12Rebuild,
+                test::promise12RebuildOrder,
+                test::promise12RebuildRefuses,
+                test::promise13About,
+                test::promise14Regenerate,
+                test::promise15Audit,
+                test::promise16Ghost,
+                test::promise16GhostRefuses,
+                test::promise17Keep,
+                test::promise18Add,
+                test::promise18AddShelves);
     }
 
     private void promise1NewObject() {

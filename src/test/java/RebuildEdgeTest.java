@@ -4,27 +4,27 @@ public final class RebuildEdgeTest extends Checks {
 
     public static void main(String[] args) {
         RebuildEdgeTest test = new RebuildEdgeTest();
-        test.enoughOfSomeShelves();
-        test.enoughRefuses();
-        test.rebuildTellsNone();
-        test.rebuildTellsMany();
-        test.rebuildTellsTheLowest();
-        test.rebuildRefusesMask();
-        test.rebuildRefusesEmpty();
-        test.aboutTellsSteps();
-        test.aboutTellsTheLowestBin();
-        test.aboutStaysBehindRefusals();
-        test.aboutStaysBehindSize();
-        test.aboutRefuses();
-        test.regenerateFills();
-        test.regenerateDoesNot();
-        test.regenerateFromAllThatAreFilled();
-        test.regenerateRefuses();
-        test.auditTellsNone();
-        test.auditTellsTheLowest();
-        test.auditTellsMany();
-        test.rebuiltStays();
-        test.end();
+        test.run(
+                test::enoughOfSomeShelves,
+                test::enoughRefuses,
+                test::rebuildTellsNone,
+                test::rebuildTellsMany,
+                test::rebuildTellsTheLowest,
+                test::rebuildRefusesMask,
+                test::rebuildRefusesEmpty,
+                test::aboutTellsSteps,
+                test::aboutTellsTheLowestBin,
+                test::aboutStaysBehindRefusals,
+                test::aboutStaysBehindSize,
+                test::aboutRefuses,
+                test::regenerateFills,
+                test::regenerateDoesNot,
+                test::regenerateFromAllThatAreFilled,
+                test::regenerateRefuses,
+                test::auditTellsNone,
+                test::auditTellsTheLowest,
+                test::auditTellsMany,
+                test::rebuiltStays);
     }
 
     /** One pixel, with as many shelves as there are numbers, each filled with its number. */
@@ -77,9 +77,10 @@ public final class RebuildEdgeTest extends Checks {
         same("before there was any", NONE, archive.rebuild(3));
         refuses("there is none", STATE, () -> archive.look(2, 0, 0));
         same("all come", MANY, archive.rebuild(7));
-        archive.pixel(2, 1, 60);
+        archive.pixel(2, 0, 30);
         projectAll(archive, 0, 1, 2, 3);
         same("one shelf", NONE, archive.rebuild(4));
+        same("comes to two", 2, archive.about(0));
         same("no shelf", NONE, archive.rebuild(0));
         same("shelves without a direction", NONE, archive.rebuild(0xF0));
         same("rows and columns", NONE, archive.rebuild(3));
@@ -88,7 +89,18 @@ public final class RebuildEdgeTest extends Checks {
         ShadowArchive partly = sized(16, 16, to(8, 7), to(-7, 8));
         projectAll(partly, 0, 1);
         same("some do not come", NONE, partly.rebuild(3));
+        refuses("so there is no picture", STATE, () -> partly.look(2, 15, 0));
         same("though some do", true, partly.about(0) > 0 && partly.about(0) < 256);
+        twoDoNotCome(sized(16, 2, to(15, 1), to(0, 1)));
+        twoDoNotCome(sized(2, 16, to(1, 15), to(1, 0)));
+    }
+
+    private void twoDoNotCome(ShadowArchive archive) {
+        archive.project(0);
+        same("two of 32 do not come", NONE, archive.rebuild(1));
+        same("but 30 do", 30, archive.about(0));
+        refuses("there is no picture", STATE, () -> archive.look(2, 0, 0));
+        same("nor is a shelf made anew", false, archive.regenerate(1));
     }
 
     private void rebuildTellsMany() {
@@ -99,6 +111,7 @@ public final class RebuildEdgeTest extends Checks {
         pixels("of the bins, not of the picture", archive, 2, new int[][] {{1, 2, 3}, {4, 5, 6}});
         archive.put(1, 0, 0);
         same("a wrong shelf that is not of them", MANY, archive.rebuild(13));
+        tallAndWideComeToAll();
         same("one pixel, eight shelves", MANY, onePixel(5, 5, 5, 5, 5, 5, 5, 5).rebuild(255));
         ShadowArchive widest = sized(16, 16, to(16, 15));
         widest.pixel(0, 0, LEAST);
@@ -107,6 +120,24 @@ public final class RebuildEdgeTest extends Checks {
         same("one shelf that is enough", MANY, widest.rebuild(1));
         same("the first pixel", LEAST, widest.look(2, 0, 0));
         same("the last pixel", GREATEST, widest.look(2, 15, 15));
+    }
+
+    /** As many pixels as w times h: neither w times w nor h times h. */
+    private void tallAndWideComeToAll() {
+        int[][] sizes = {{1, 16}, {16, 1}, {2, 5}, {5, 2}, {1, 2}, {2, 1}};
+        for (int[] size : sizes) {
+            ShadowArchive archive = sized(size[0], size[1], to(1, 0), to(0, 1), to(size[0], 1), to(1, size[1]));
+            archive.pixel(size[0] - 1, size[1] - 1, 7);
+            projectAll(archive, 2, 3);
+            String what = size[0] + " times " + size[1];
+            same(what + ", along p", MANY, archive.rebuild(4));
+            same(what + ", along q", MANY, archive.rebuild(8));
+            same(what + ", steps", size[0] * size[1], archive.about(0));
+            same(what + ", the last pixel", 7, archive.look(2, size[0] - 1, size[1] - 1));
+            same(what + ", regenerates", true, archive.regenerate(0));
+            same(what + ", its last row", 7, archive.bin(0, size[1] - 1));
+            same(what + ", is of one picture", NONE, archive.audit());
+        }
     }
 
     private void rebuildTellsTheLowest() {

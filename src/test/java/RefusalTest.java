@@ -14,17 +14,17 @@ public final class RefusalTest extends Checks {
 
     public static void main(String[] args) {
         RefusalTest test = new RefusalTest();
-        test.noSuchSize();
-        test.noSuchPixel();
-        test.noSuchShelf();
-        test.noSuchDirection();
-        test.noSuchBin();
-        test.noSuchMask();
-        test.noSuchWhat();
-        test.noSuchState();
-        test.nothingKeptOrRebuilt();
-        test.questionsChangeNothing();
-        test.end();
+        test.run(
+                test::noSuchSize,
+                test::noSuchPixel,
+                test::noSuchShelf,
+                test::noSuchDirection,
+                test::noSuchBin,
+                test::noSuchMask,
+                test::noSuchWhat,
+                test::noSuchState,
+                test::nothingKeptOrRebuilt,
+                test::questionsChangeNothing);
     }
 
     /** Shelves 0 to 3 filled, 1 of them wrong, 4 empty, 5 to 7 without a direction; kept and rebuilt pictures. */

@@ -2,26 +2,26 @@
 public final class ShelfEdgeTest extends Checks {
     public static void main(String[] args) {
         ShelfEdgeTest test = new ShelfEdgeTest();
-        test.directionIsToldOneWay();
-        test.directionPerhapsTheSame();
-        test.directionEmpties();
-        test.directionRefusesNoShelf();
-        test.directionRefusesNone();
-        test.directionRefusesAnothers();
-        test.shelfTellsFour();
-        test.shelfRefusesNoWhat();
-        test.shelfRefusesNoDirection();
-        test.projectSums();
-        test.projectRefuses();
-        test.dropTellsWhetherItWasFilled();
-        test.dropRefuses();
-        test.binFirstAndLast();
-        test.binRefusesNoShelf();
-        test.binRefusesNoDirectionOrEmpty();
-        test.binRefusesNoBin();
-        test.putTellsWhatItWas();
-        test.putRefusesLikewise();
-        test.end();
+        test.run(
+                test::directionIsToldOneWay,
+                test::directionPerhapsTheSame,
+                test::directionEmpties,
+                test::directionRefusesNoShelf,
+                test::directionRefusesNone,
+                test::directionRefusesAnothers,
+                test::shelfTellsFour,
+                test::shelfRefusesNoWhat,
+                test::shelfRefusesNoDirection,
+                test::projectSums,
+                test::projectRefuses,
+                test::dropTellsWhetherItWasFilled,
+                test::dropRefuses,
+                test::binFirstAndLast,
+                test::binRefusesNoShelf,
+                test::binRefusesNoDirectionOrEmpty,
+                test::binRefusesNoBin,
+                test::putTellsWhatItWas,
+                test::putRefusesLikewise);
     }
 
     private void directionIs(ShadowArchive archive, int shelf, int p, int q) {

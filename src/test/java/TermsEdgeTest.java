@@ -4,31 +4,32 @@ public final class TermsEdgeTest extends Checks {
 
     public static void main(String[] args) {
         TermsEdgeTest test = new TermsEdgeTest();
-        test.pictureHasColumnsAndRows();
-        test.pictureIsOfInts();
-        test.pictureIsZeroAtFirst();
-        test.numbersWrap();
-        test.keptIsThereOrNot();
-        test.shelvesAreEight();
-        test.directionsAreWithinSixteen();
-        test.noTwoShelvesHaveTheSame();
-        test.binsAreNumberedFromTheLeast();
-        test.binsOfOnePixel();
-        test.binsGoToTheGreatest();
-        test.shelvesAreFilledOrEmpty();
-        test.projectedBinsAreSums();
-        test.maskTellsShelves();
-        test.shelvesWithoutDirectionDoNotCount();
-        test.enoughIsAtLeast();
-        test.rebuildingGoesFromTheLowest();
-        test.rebuildingEnds();
-        test.stepsAreCounted();
-        test.agreeingIsBinByBin();
-        test.ghostIsMovedToTheLeft();
-        test.ghostReachesTheLastPixel();
-        test.ghostBinsAreZero();
-        test.constants();
-        test.end();
+        test.run(
+                test::pictureHasColumnsAndRows,
+                test::pictureIsOfInts,
+                test::pictureIsZeroAtFirst,
+                test::numbersWrap,
+                test::keptIsThereOrNot,
+                test::shelvesAreEight,
+                test::directionsAreWithinSixteen,
+                test::noTwoShelvesHaveTheSame,
+                test::binsAreNumberedFromTheLeast,
+                test::binsOfOnePixel,
+                test::binsGoToTheGreatest,
+                test::shelvesAreFilledOrEmpty,
+                test::projectedBinsAreSums,
+                test::maskTellsShelves,
+                test::shelvesWithoutDirectionDoNotCount,
+                test::enoughIsAtLeast,
+                test::rebuildingBeginsWithNothing,
+                test::rebuildingGoesFromTheLowest,
+                test::rebuildingEnds,
+                test::stepsAreCounted,
+                test::agreeingIsBinByBin,
+                test::ghostIsMovedToTheLeft,
+                test::ghostReachesTheLastPixel,
+                test::ghostBinsAreZero,
+                test::constants);
     }
 
     private void pictureHasColumnsAndRows() {
@@ -124,7 +125,7 @@ public final class TermsEdgeTest extends Checks {
     }
 
     private void shelvesAreEight() {
-        sentence("SHELVES are 0 .. 7");
+        sentence("SHELVES are 0 .. 7; each may have a DIRECTION (p, q)");
         for (int s = 0; s < 8; s++) {
             ShadowArchive archive = sized(2, 2);
             archive.direction(s, 1, 1);
@@ -134,6 +135,8 @@ public final class TermsEdgeTest extends Checks {
             same("its bin", s, archive.bin(s, 2));
             same("is filled", true, archive.drop(s));
             same("is not made anew of nothing", false, archive.regenerate(s));
+            int other = 7 - s;
+            refuses("another has none", STATE, () -> archive.shelf(other, 0));
         }
         for (int s : new int[] {-1, 8, 9, 31, 32, 256, LEAST, GREATEST}) {
             ShadowArchive archive = sixPixels();
@@ -385,6 +388,21 @@ public final class TermsEdgeTest extends Checks {
         same("whether filled or not", true, sized(1, 1, to(0, 1)).enough(1));
     }
 
+    private void rebuildingBeginsWithNothing() {
+        sentence("REBUILDING from some shelves, which are filled: at first no pixel is known");
+        ShadowArchive archive = sixPixels();
+        projectAll(archive, 0, 1, 2, 3);
+        same("all become known", MANY, archive.rebuild(7));
+        same("nothing is known of them any more", NONE, archive.rebuild(3));
+        same("so there is no step", 0, archive.about(0));
+        same("all once more", MANY, archive.rebuild(11));
+        same("step by step", 6, archive.about(0));
+        refuses("not from an empty one", STATE, () -> {
+            archive.drop(1);
+            archive.rebuild(11);
+        });
+    }
+
     private void rebuildingGoesFromTheLowest() {
         sentence("in the lowest shelf of which a bin has just one pixel that is not known,"
                 + " and the lowest such bin of it: that pixel becomes the bin's number less its other pixels");
@@ -448,6 +466,17 @@ public final class TermsEdgeTest extends Checks {
         alone.put(0, 4, 1);
         same("a bin of no pixel is 0", 0, alone.rebuild(1));
         same("and the picture is there", 4, alone.look(2, 0, 0));
+        alone.put(0, 3, 9);
+        alone.rebuild(1);
+        alone.direction(0, 2, 1);
+        alone.direction(1, 0, 1);
+        projectAll(alone, 0, 1);
+        same("no bin of the direction before counts", MANY, alone.rebuild(3));
+        alone.direction(1, 1, 0);
+        alone.direction(0, 0, 1);
+        alone.direction(2, 1, 1);
+        projectAll(alone, 0, 1, 2);
+        same("nor of the one before that", MANY, alone.rebuild(7));
     }
 
     private void ghostIsMovedToTheLeft() {
